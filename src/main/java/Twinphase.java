@@ -22,6 +22,7 @@ public final class Twinphase {
     private static final int ALIVE_TICKS = 20;
     private static final int DOUBT = 100;
     private static final int MOST_WHAT = 6;
+    private static final int ANY_STAMP = 0x7FFFFFFF;
 
     // What a look at a key answers when the key has to be looked at once more.
     private static final int ANEW = -99;
@@ -232,17 +233,11 @@ public final class Twinphase {
         if (ending.writeStamp > ending.readStamp && !refreshReads(ending, ending.writeStamp)) {
             return restartAt(ending, ending.writeStamp);
         }
-        ending.readStamp = ending.writeStamp;
-        if (!hasAllIntents(ending)) {
-            ending.state = ABORTED;
-            return ENDED;
+        ending.state = STAGED;
+        if (!isStaged || ending.writtenKeys == 0 || !hasAllIntents(ending)) {
+            decideStaged(ending);
         }
-        if (isStaged && ending.writtenKeys != 0) {
-            ending.state = STAGED;
-        } else {
-            makeCommitted(ending);
-        }
-        return DONE;
+        return ending.state == ABORTED ? ENDED : DONE;
     }
 
     public int abort(int transaction) throws IndexOutOfBoundsException {
@@ -256,8 +251,11 @@ public final class Twinphase {
 
     public int recover(int transaction) throws IndexOutOfBoundsException {
         needTransaction(transaction);
-        decideStaged(transactions[transaction]);
-        return transactions[transaction].state;
+        Transaction recovered = transactions[transaction];
+        if (recovered.state == STAGED) {
+            decideStaged(recovered);
+        }
+        return recovered.state;
     }
 
     public int beat(int transaction) throws IndexOutOfBoundsException {
@@ -412,13 +410,16 @@ public final class Twinphase {
 
     /** The first key of a range, or KEYS behind the last range. */
     private int firstKeyOf(int range) {
-        int key = 0;
-        for (int passed = 0; key < KEYS; key++) {
-            if (cells[key].beginsRange && passed++ == range) {
-                break;
+        int passed = 0;
+        for (int key = 0; key < KEYS; key++) {
+            if (cells[key].beginsRange) {
+                if (passed == range) {
+                    return key;
+                }
+                passed++;
             }
         }
-        return key;
+        return KEYS;
     }
 
     // ---- asking nodes for keys
@@ -444,7 +445,9 @@ public final class Twinphase {
         if (owner == null || owner == meeting) {
             return null;
         }
-        decideStaged(owner);
+        if (owner.state == STAGED) {
+            decideStaged(owner);
+        }
         if (owner.state == PENDING && owner.isVanished(time)) {
             owner.state = ABORTED;
         }
@@ -495,25 +498,24 @@ public final class Twinphase {
         }
         int latest = history.stampUpTo(key, horizon);
         if (latest > reader.readStamp) {
-            return raiseReads(reader, latest);
+            return refreshReads(reader, latest) ? ANEW : restartAt(reader, latest);
         }
         cells[key].noteReader(reader.number, reader.readStamp);
         return reader.noteRead(key, history.valueUpTo(key, reader.readStamp));
     }
 
-    /** Raises the read stamp to that of a version inside the doubt; returns ANEW or RESTART. */
-    private int raiseReads(Transaction reader, int stamp) {
-        if (!refreshReads(reader, stamp)) {
-            return restartAt(reader, Math.max(stamp, reader.writeStamp));
-        }
-        reader.readStamp = stamp;
-        reader.writeStamp = Math.max(reader.writeStamp, stamp);
-        return ANEW;
-    }
-
+    /** Refreshes reads to a stamp, and raises the transaction's stamps to it; returns whether it can be done. */
     private boolean refreshReads(Transaction reader, int stamp) {
         for (int key = 0; key < KEYS; key++) {
-            if (reader.hasRead(key) && !canRefresh(reader, key, stamp)) {
+            if (!reader.hasRead(key)) {
+                continue;
+            }
+            if (nodes[cells[key].node].isDown) {
+                return false;
+            }
+            // Met ahead of the look for versions: one that was STAGED may leave a version here by that.
+            Transaction other = meetIntent(reader, key);
+            if (other != null && other.writeStamp <= stamp || history.stampUpTo(key, stamp) > reader.readStamp) {
                 return false;
             }
         }
@@ -522,19 +524,8 @@ public final class Twinphase {
                 cells[key].noteReader(reader.number, stamp);
             }
         }
+        reader.raiseStamps(stamp);
         return true;
-    }
-
-    private boolean canRefresh(Transaction reader, int key, int stamp) {
-        if (nodes[cells[key].node].isDown) {
-            return false;
-        }
-        // First, since one that was STAGED may leave a version here by that.
-        Transaction other = meetIntent(reader, key);
-        if (other != null && other.writeStamp <= stamp) {
-            return false;
-        }
-        return history.stampUpTo(key, stamp) <= reader.readStamp;
     }
 
     private int restartAt(Transaction restarting, int stamp) {
@@ -558,7 +549,7 @@ public final class Twinphase {
             }
             other.state = ABORTED;
         }
-        int least = history.stampUpTo(key, Integer.MAX_VALUE) + 1;
+        int least = history.stampUpTo(key, ANY_STAMP) + 1;
         if (cell.readBy != writer.number) {
             least = Math.max(least, cell.readStamp + 1);
         }
@@ -587,24 +578,18 @@ public final class Twinphase {
         return true;
     }
 
+    /** Decides one that is STAGED: COMMITTED with versions for its intents, if all of them are there. */
     private void decideStaged(Transaction staged) {
-        if (staged.state != STAGED) {
+        if (!hasAllIntents(staged)) {
+            staged.state = ABORTED;
             return;
         }
-        if (hasAllIntents(staged)) {
-            makeCommitted(staged);
-        } else {
-            staged.state = ABORTED;
-        }
-    }
-
-    private void makeCommitted(Transaction ending) {
-        ending.state = COMMITTED;
-        history.addCommitted(ending);
+        staged.state = COMMITTED;
+        history.addCommitted(staged);
         for (int key = 0; key < KEYS; key++) {
-            if (cells[key].owner == ending) {
+            if (staged.writes(key)) {
                 cells[key].owner = null;
-                history.addChange(ending.writeStamp, key, ending.writtenValues[key]);
+                history.addChange(staged.writeStamp, key, staged.writtenValues[key]);
             }
         }
     }
@@ -725,8 +710,13 @@ public final class Twinphase {
         void forgetAll(int stamp) {
             readKeys = 0;
             writtenKeys = 0;
+            writeStamp = Math.max(stamp, writeStamp);
+            readStamp = writeStamp;
+        }
+
+        void raiseStamps(int stamp) {
             readStamp = stamp;
-            writeStamp = stamp;
+            writeStamp = Math.max(writeStamp, stamp);
         }
     }
 

@@ -24,6 +24,8 @@ public final class CommittingTest {
             "split 8 = 2; move 1 1 = 0; begin 2 1 = 0; get 0 0 = GONE; put 0 9 1 = DONE; told 0 1 = 1; told 0 2 = 2; down 0 = 0",
             "begin 2 1 = 1; get 1 9 = WAITS; begin 1 1 = 2; commit 2 plain = DONE; commit 0 plain = RESTART; told 0 1 = 2; key 9 1 = NONE",
             "put 0 9 1 = DONE; get 0 0 = DOWN; commit 0 plain = DONE; order 0 = 0; order 1 = 2");
+        Script.play("also that of the first key",
+            "split 1 = 2; move 1 1 = 0; begin 2 1 = 0; put 0 0 1 = DONE; sync 0 = 1; down 0 = 0; commit 0 plain = DOWN; up 0; commit 0 plain = DONE");
         Script.play("without a refresh it is not looked at",
             "split 8 = 2; move 1 1 = 0; begin 2 1 = 0; begin 2 1 = 1; get 1 0 = GONE; put 1 9 1 = DONE; told 1 2 = 2; told 1 1 = 2",
             "down 0 = 0; commit 1 plain = DONE");
@@ -65,6 +67,9 @@ public final class CommittingTest {
         Script.play("a version at the write stamp is one",
             "begin 1 1 = 0; begin 2 1 = 1; begin 1 1 = 2; get 0 1 = GONE; put 2 1 5 = DONE; told 2 2 = 2; commit 2 plain = DONE",
             "get 1 2 = GONE; put 0 2 5 = DONE; told 0 2 = 2; commit 0 plain = RESTART");
+        Script.play("one at the read stamp is none",
+            "skew 1 5 = 0; pass 10 = 10; begin 1 0 = 0; put 0 3 77 = DONE; commit 0 plain = DONE; begin 2 0 = 1; get 1 3 = 77; told 1 1 = 150",
+            "begin 1 0 = 2; get 2 4 = GONE; put 1 4 5 = DONE; told 1 2 = 152; commit 1 plain = DONE; told 1 1 = 152; key 3 2 = 152");
         Script.play("one above it is none",
             "skew 1 5 = 0; begin 1 1 = 0; begin 2 1 = 1; begin 3 1 = 2; get 1 1 = GONE; get 2 2 = GONE; put 0 1 9 = DONE; commit 0 plain = DONE",
             "put 1 2 5 = DONE; told 1 2 = 2; commit 1 plain = DONE; told 1 0 = COMMITTED; judged = 0; order 0 = 1; order 1 = 0");
@@ -78,6 +83,9 @@ public final class CommittingTest {
             "split 8 = 2; move 1 1 = 0; begin 2 1 = 0; get 0 1 = GONE; put 0 0 1 = DONE; put 0 9 1 = DONE; down 1 = 1; up 1 = 3",
             "told 0 1 = 1; told 0 2 = 2; commit 0 plain = ENDED; told 0 0 = ABORTED; told 0 1 = 2; key 0 1 = 0; key 1 2 = 2; order 0 = NONE",
             "told 0 4 = 1; told 0 5 = 2; commit 0 plain = ENDED");
+        Script.play("also that at the first key, or just that at the last",
+            "begin 1 1 = 0; put 0 0 1 = DONE; down 0 = 1; up 0; commit 0 plain = ENDED; begin 1 1 = 1; put 1 31 1 = DONE; down 0 = 1; up 0",
+            "commit 1 staged = ENDED; told 1 0 = ABORTED");
         Script.play("a RESTART goes before that",
             "begin 1 1 = 0; get 0 1 = GONE; put 0 2 1 = DONE; down 0 = 1; up 0 = 3; begin 0 1 = 1; put 1 1 1 = DONE; commit 1 plain = DONE",
             "put 0 3 1 = DONE; told 0 2 = 4; begin 0 1 = 2; get 2 4 = GONE; put 0 4 1 = DONE; commit 0 plain = RESTART; told 0 0 = PENDING",

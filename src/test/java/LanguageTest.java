@@ -51,8 +51,7 @@ public final class LanguageTest {
         Set<String> imports = found(code, "import ([\\w.]+);");
         due("imports just Arrays, not " + imports, imports.equals(Set.of("java.util.Arrays")));
         Set<String> statics = found(code, "\\b((?:Arrays|Math|Integer|Long|System|List|String)\\.\\w+)");
-        due("of the library " + statics, Set.of("Arrays.copyOf", "Arrays.fill", "Math.max", "Math.min", "Integer.bitCount",
-            "Integer.MAX_VALUE").containsAll(statics));
+        due("of the library " + statics, Set.of("Arrays.copyOf", "Arrays.fill", "Math.max", "Math.min", "Integer.bitCount").containsAll(statics));
     }
 
     /** Rule 6: what is thrown, and that it bears just a written text. */

@@ -8,6 +8,7 @@ public final class QuestionsTest {
         feed();
         order();
         judged();
+        manyChanges();
         Script.end("QuestionsTest");
     }
 
@@ -61,9 +62,10 @@ public final class QuestionsTest {
 
     private static void feed() {
         Script.play("promise 23: by stamps, then keys, up to the stamp that is resolved",
-            "feed -1 ! Index; feed 0 = NONE; pass 2 = 2; skew 1 -1 = 0; begin 0 1 = 0; put 0 9 5 = DONE; put 0 1 GONE = DONE; put 0 31 5 = DONE",
-            "commit 0 plain = DONE; begin 1 1 = 1; told 1 1 = 10; put 1 4 5 = DONE; commit 1 plain = DONE; feed 0 = NONE; pass 14 = 16; feed 0 = 324",
-            "feed 1 = NONE; pass 1 = 17; feed 0 = 324; feed 1 = 641; feed 2 = 649; feed 3 = 671; feed 4 = NONE; feed 2147483647 = NONE; feed -1 ! Index");
+            "feed -1 ! Index; feed 0 = NONE; pass 2 = 2; skew 1 -1 = 0; begin 0 1 = 0; put 0 9 5 = DONE; put 0 1 GONE = DONE; put 0 31 7 = DONE",
+            "commit 0 plain = DONE; begin 1 1 = 1; told 1 1 = 10; put 1 4 6 = DONE; commit 1 plain = DONE; feed 0 = NONE; pass 14 = 16; feed 0 = 324",
+            "feed 1 = NONE; pass 1 = 17; feed 0 = 324; feed 1 = 641; feed 2 = 649; feed 3 = 671; feed 4 = NONE; feed 2147483647 = NONE; feed -1 ! Index",
+            "asOf 9 20 = 5; asOf 31 20 = 7; asOf 4 20 = 6; asOf 4 10 = 6; asOf 1 20 = GONE; asOf 9 19 = GONE");
         Script.play("promise 23: not behind one that is STAGED",
             "pass 1 = 1; begin 0 1 = 0; begin 0 1 = 1; put 0 1 5 = DONE; put 1 2 5 = DONE; commit 0 staged = DONE; commit 1 plain = DONE",
             "pass 20 = 21; closed = 60; resolved = 9; feed 0 = NONE; recover 0 = COMMITTED; feed 0 = 321; feed 1 = 354; feed 2 = NONE");
@@ -78,9 +80,32 @@ public final class QuestionsTest {
     }
 
     private static void judged() {
+        Script.play("promise 25: the first key and the last one",
+            "begin 0 1 = 0; put 0 0 5 = DONE; put 0 31 6 = DONE; commit 0 plain = DONE; begin 0 1 = 1; get 1 0 = 5; get 1 31 = 6",
+            "put 1 0 7 = DONE; put 1 31 GONE = DONE; judged = 0; commit 1 plain = DONE; begin 0 1 = 2; get 2 0 = 7; get 2 31 = GONE",
+            "commit 2 plain = DONE; judged = 0");
         Script.play("promise 25: versions read by others, own writes, values that came again",
             "judged = 0; begin 0 1 = 0; get 0 1 = GONE; put 0 1 5 = DONE; get 0 1 = 5; commit 0 plain = DONE; judged = 0; begin 0 1 = 1; get 1 1 = 5",
             "put 1 1 6 = DONE; begin 0 1 = 2; commit 1 plain = DONE; get 2 1 = 6; begin 2 1 = 3; get 3 1 = 6; commit 3 plain = DONE",
             "put 2 1 5 = DONE; commit 2 plain = DONE; judged = 0; order 0 = 0; order 1 = 1; order 2 = 3; order 3 = 2");
+    }
+
+    /** 40 transactions, each with 9 keys: 360 versions. */
+    private static void manyChanges() {
+        String[] lines = new String[40 * 4 + 9];
+        for (int t = 0; t < 40; t++) {
+            int key = t % 3;
+            StringBuilder puts = new StringBuilder("begin 0 1 = " + t);
+            for (int i = 0; i < 9; i++) puts.append("; put ").append(t).append(' ').append(i * 3 + key).append(' ').append(t).append(" = DONE");
+            lines[t * 4] = "pass 1 = " + (t + 1);
+            lines[t * 4 + 1] = puts.toString();
+            lines[t * 4 + 2] = "commit " + t + " plain = DONE";
+            lines[t * 4 + 3] = "order " + t + " = " + t + "; key " + key + " 0 = " + (t / 3 + 1);
+        }
+        for (int i = 0; i < 9; i++) {
+            lines[160 + i] = i == 0 ? "pass 20 = 60; resolved = 450; order 39 = 39; order 40 = NONE; feed 359 = " + (400 * 32 + 24) + "; feed 360 = NONE"
+                : "feed " + i + " = " + (320 + 3 * i) + "; feed " + (9 * 20 + i) + " = " + (210 * 32 + 3 * i + 2) + "; asOf " + 3 * i + " 210 = 18";
+        }
+        Script.play("promises 23 and 24: a feed and an order as long as they can be", lines);
     }
 }

@@ -1,4 +1,6 @@
+import java.util.ArrayList;
 import java.util.Arrays;
+import java.util.List;
 import java.util.Random;
 import java.util.TreeMap;
 
@@ -14,9 +16,23 @@ public final class RandomRunsTest {
     private final TreeMap<String, Integer> seen;
     private int begun;
 
+    // Each run has habits of its own: what is rare in one is usual in another.
+    private final int hotKeys;
+    private final int ticks;
+    private final int ranks;
+    private final int downs;
+    private final int begins;
+    private final int reads;
+
     private RandomRunsTest(long seed, TreeMap<String, Integer> seen) {
         random = new Random(seed);
         this.seen = seen;
+        hotKeys = 1 + random.nextInt(8);
+        ticks = 1 + random.nextInt(12);
+        ranks = 1 + random.nextInt(4);
+        downs = 1 + random.nextInt(12);
+        begins = 2 + random.nextInt(8);
+        reads = 10 + random.nextInt(80);
     }
 
     static String answerOf(Subject subject, String name, int... arguments) {
@@ -47,37 +63,57 @@ public final class RandomRunsTest {
     }
 
     private int someKey() {
-        return random.nextInt(8) == 0 ? within(0, 31) : 7 + random.nextInt(4);
+        return random.nextInt(12) == 0 ? within(0, 31) : 7 + random.nextInt(hotKeys);
     }
 
-    private int someTransaction() {
-        int back = random.nextInt(10) == 0 ? 40 : 5;
-        return random.nextInt(100) == 0 ? within(0, begun) : Math.max(0, begun - 1 - random.nextInt(back));
+    private List<Integer> pending() {
+        List<Integer> all = new ArrayList<>();
+        for (int t = 0; t < begun; t++) if (model.call("told", t, 0) == 0) all.add(t);
+        return all;
+    }
+
+    /** Mostly one that is PENDING, as those are that can go on. */
+    private int someTransaction(List<Integer> pending) {
+        if (random.nextInt(150) == 0) return within(0, begun);
+        if (pending.isEmpty() || random.nextInt(25) == 0) return random.nextInt(begun + 1);
+        return pending.get(random.nextInt(pending.size()));
     }
 
     private boolean step() {
-        int t = someTransaction();
-        switch (random.nextInt(48)) {
-            case 0: return isSame("pass", random.nextInt(3) == 0 ? within(1, 50) : 1 + random.nextInt(6));
-            case 1: return isSame("skew", within(0, 3), within(-5, 5));
-            case 2: return isSame("clock", within(0, 3));
-            case 3: return random.nextInt(3) != 0 || isSame("down", within(0, 3));
-            case 4: case 5: return isSame("up", within(0, 3));
-            case 6: return isSame("sync", within(0, 3));
-            case 7: return isSame("split", random.nextBoolean() ? someKey() : within(1, 31));
-            case 8: return isSame("merge", within(0, 3));
-            case 9: return isSame("move", within(0, 4), within(0, 3));
-            case 10: case 11: case 12: return isSame("begin", within(0, 3), random.nextInt(20) == 0 ? within(0, 9) : random.nextInt(3));
-            case 13: case 14: case 15: return isSame("commit", t, random.nextInt(2));
-            case 16: return random.nextInt(2) == 0 || isSame("abort", t);
-            case 17: return random.nextInt(2) == 0 || isSame("recover", t);
-            case 18: return isSame("beat", t);
-            case 19: return isSame("asOf", someKey(), random.nextInt(1 + answerClosed()));
-            case 20: return isSame("asOf", someKey(), answerClosed() + random.nextInt(2));
-            case 21: case 22: case 23: case 24: case 25: case 26: case 27: case 28: case 29: case 30: case 31: case 32:
-                return isSame("put", t, someKey(), random.nextInt(5) == 0 ? within(0, 1000) : random.nextInt(999));
-            default: return isSame("get", t, someKey());
+        List<Integer> pending = pending();
+        if (pending.size() < random.nextInt(begins) && random.nextInt(3) > 0) {
+            return isSame("begin", within(0, 3), random.nextInt(20) == 0 ? within(0, 9) : random.nextInt(ranks));
         }
+        int t = someTransaction(pending);
+        int kind = random.nextInt(100);
+        if (kind < 60) return random.nextInt(100) < reads ? isSame("get", t, someKey()) : isSame("put", t, someKey(), someValue());
+        if (kind < 70) return random.nextInt(2) == 0 ? isSame("commit", t, random.nextInt(2)) : isSame("beat", t);
+        if (kind < 76) return isSame("beat", t);
+        if (kind < 83) return isSame("pass", random.nextInt(10) == 0 ? within(1, 50) : 1 + random.nextInt(ticks));
+        return rareStep(t, kind);
+    }
+
+    private boolean rareStep(int t, int kind) {
+        switch (kind) {
+            case 83: case 84: return isSame("skew", within(0, 3), within(-5, 5));
+            case 85: return isSame("clock", within(0, 3));
+            case 86: return random.nextInt(downs) != 0 || isSame("down", within(0, 3));
+            case 87: case 88: return isSame("up", within(0, 3));
+            case 89: return isSame("sync", within(0, 3));
+            case 90: return isSame("split", random.nextInt(4) == 0 ? within(1, 31) : 7 + random.nextInt(hotKeys));
+            case 91: return isSame("merge", within(0, 3));
+            case 92: case 93: return isSame("move", within(0, 4), within(0, 3));
+            case 94: return random.nextInt(3) != 0 || isSame("abort", t);
+            case 95: return isSame("recover", t);
+            case 96: return isSame("recover", random.nextInt(Math.max(1, begun)));
+            case 97: return isSame("asOf", someKey(), random.nextInt(1 + answerClosed()));
+            case 98: return isSame("asOf", someKey(), answerClosed() + random.nextInt(2));
+            default: return isSame("commit", t, 1);
+        }
+    }
+
+    private int someValue() {
+        return random.nextInt(5) == 0 ? within(0, 1000) : random.nextInt(1000);
     }
 
     private int answerClosed() {

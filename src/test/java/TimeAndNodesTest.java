@@ -86,6 +86,9 @@ public final class TimeAndNodesTest {
             "split 16 = 2; move 1 1 = 0; begin 2 1 = 0; get 0 0 = GONE; key 0 2 = 1; skew 3 5 = 0; begin 3 1 = 1",
             "get 1 16 = GONE; key 16 2 = 50; put 0 16 1 = DONE; told 0 2 = 51; commit 0 plain = DONE",
             "key 0 2 = 51; key 0 3 = 0; down 0 = 0; up 0 = 3; key 0 2 = 51; key 0 3 = 0; key 1 2 = 3; key 1 3 = SEVERAL");
+        Script.play("promise 7: the same stamp is not greater",
+            "split 16 = 2; move 1 1 = 0; begin 2 1 = 0; get 0 0 = GONE; skew 3 5 = 0; begin 3 1 = 1; get 1 16 = GONE; put 0 16 1 = DONE",
+            "commit 0 plain = DONE; key 0 2 = 51; pass 5 = 5; clock 0 = 50; down 0 = 0; up 0 = 51; key 0 2 = 51; key 0 3 = 0; key 1 3 = SEVERAL");
         Script.play("promise 7: exceptions",
             "up 4 ! Index; up -1 ! Index; up 0 ! State; down 0 = 0; up 1 ! State; up 0 = 1; up 0 ! State");
         Script.play("promise 7: a clock that goes behind still rises",
