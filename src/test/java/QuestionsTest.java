@@ -90,21 +90,19 @@ public final class QuestionsTest {
             "put 2 1 5 = DONE; commit 2 plain = DONE; judged = 0; order 0 = 0; order 1 = 1; order 2 = 3; order 3 = 2");
     }
 
-    /** 40 transactions, each with 9 keys: 360 versions. */
+    /** 40 transactions, each with 9 keys: 360 versions, in 511 calls. */
     private static void manyChanges() {
-        String[] lines = new String[40 * 4 + 9];
+        String[] lines = new String[40 * 3 + 9];
         for (int t = 0; t < 40; t++) {
-            int key = t % 3;
             StringBuilder puts = new StringBuilder("begin 0 1 = " + t);
-            for (int i = 0; i < 9; i++) puts.append("; put ").append(t).append(' ').append(i * 3 + key).append(' ').append(t).append(" = DONE");
-            lines[t * 4] = "pass 1 = " + (t + 1);
-            lines[t * 4 + 1] = puts.toString();
-            lines[t * 4 + 2] = "commit " + t + " plain = DONE";
-            lines[t * 4 + 3] = "order " + t + " = " + t + "; key " + key + " 0 = " + (t / 3 + 1);
+            for (int i = 0; i < 9; i++) puts.append("; put ").append(t).append(' ').append(i * 3 + t % 3).append(' ').append(t).append(" = DONE");
+            lines[t * 3] = "pass 1 = " + (t + 1);
+            lines[t * 3 + 1] = puts.toString();
+            lines[t * 3 + 2] = "commit " + t + " plain = DONE";
         }
-        for (int i = 0; i < 9; i++) {
-            lines[160 + i] = i == 0 ? "pass 20 = 60; resolved = 450; order 39 = 39; order 40 = NONE; feed 359 = " + (400 * 32 + 24) + "; feed 360 = NONE"
-                : "feed " + i + " = " + (320 + 3 * i) + "; feed " + (9 * 20 + i) + " = " + (210 * 32 + 3 * i + 2) + "; asOf " + 3 * i + " 210 = 18";
+        lines[120] = "pass 20 = 60; resolved = 450; order 0 = 0; order 39 = 39; order 40 = NONE; feed 359 = " + (400 * 32 + 24) + "; feed 360 = NONE";
+        for (int i = 1; i < 9; i++) {
+            lines[120 + i] = "feed " + i + " = " + (320 + 3 * i) + "; feed " + (9 * 20 + i) + " = " + (210 * 32 + 3 * i + 2) + "; key " + i + " 0 = " + (i % 3 == 0 ? 14 : 13);
         }
         Script.play("promises 23 and 24: a feed and an order as long as they can be", lines);
     }

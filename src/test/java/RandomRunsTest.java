@@ -35,17 +35,9 @@ public final class RandomRunsTest {
         reads = 10 + random.nextInt(80);
     }
 
-    static String answerOf(Subject subject, String name, int... arguments) {
-        try {
-            return Integer.toString(subject.call(name, arguments));
-        } catch (RuntimeException e) {
-            return e.getClass().getSimpleName();
-        }
-    }
-
     private boolean isSame(String name, int... arguments) {
-        String want = answerOf(model, name, arguments);
-        String got = answerOf(real, name, arguments);
+        String want = Probe.answerOf(model, name, arguments);
+        String got = Probe.answerOf(real, name, arguments);
         log.append(name).append(Arrays.toString(arguments)).append(" = ").append(got).append('\n');
         boolean isShort = want.length() == 3 && want.startsWith("-1") || want.endsWith("Exception") || name.equals("judged");
         seen.merge(name + " " + (isShort ? want : "value"), 1, Integer::sum);

@@ -1,4 +1,7 @@
+import java.util.ArrayList;
+import java.util.List;
 import java.util.Map;
+import java.util.function.Predicate;
 
 /**
  * Plays calls written as text on a new object, and on a new model, and counts the answers that are not due.
@@ -7,6 +10,9 @@ import java.util.Map;
  * answer that is due, or '!' and the exception that is due (Index, Argument or State), or nothing if any
  * answer will do. 'repeat 3 clock 0' makes one call three times. Names of constants stand for their numbers,
  * 'plain' and 'staged' for the argument of commit.
+ *
+ * Each script is played once more without the calls that are refused, and once more without the questions:
+ * both times the object has to end as it did with them, since neither changes anything.
  */
 final class Script {
     private static final Map<String, Integer> WORDS = Map.ofEntries(
@@ -19,6 +25,8 @@ final class Script {
         "Index", "IndexOutOfBoundsException",
         "Argument", "IllegalArgumentException",
         "State", "IllegalStateException");
+    // What later calls answer is free.
+    private static final int MOST_CALLS = 512;
 
     private static int wrong;
     private static int played;
@@ -26,9 +34,50 @@ final class Script {
     private Script() {
     }
 
+    /** One call as it is written; due is null if any answer will do. */
+    private static final class Call {
+        final String text;
+        final String name;
+        final int times;
+        final int[] arguments;
+        final String due;
+        final boolean isRefused;
+
+        Call(String text) {
+            String[] words = text.split(" +");
+            int first = words[0].equals("repeat") ? 2 : 0;
+            int end = first + 1;
+            while (end < words.length && !words[end].equals("=") && !words[end].equals("!")) end++;
+            this.text = text;
+            name = words[first];
+            times = first == 2 ? number(words[1]) : 1;
+            arguments = new int[end - first - 1];
+            for (int i = 0; i < arguments.length; i++) arguments[i] = number(words[first + 1 + i]);
+            isRefused = end < words.length && words[end].equals("!");
+            due = end < words.length ? answerDue(words[end + 1]) : null;
+        }
+
+        private String answerDue(String word) {
+            if (!isRefused) return Integer.toString(number(word));
+            if (!EXCEPTIONS.containsKey(word)) throw new AssertionError("no exception " + word);
+            return EXCEPTIONS.get(word);
+        }
+    }
+
     static void play(String title, String... lines) {
-        playOn("the class", new Real(), title, lines);
-        playOn("the model", new Model(), title, lines);
+        List<Call> calls = new ArrayList<>();
+        int count = 0;
+        for (String line : lines) {
+            for (String text : line.split(";")) {
+                calls.add(new Call(text.trim()));
+                count += calls.get(calls.size() - 1).times;
+            }
+        }
+        if (count > MOST_CALLS) throw new AssertionError("too many calls, " + count + ": " + title);
+        playOn(new Model(), "the model, " + title, calls);
+        String end = playOn(new Real(), "the class, " + title, calls);
+        playWithout("refused calls", c -> c.isRefused, end, title, calls);
+        playWithout("questions", c -> Probe.QUESTIONS.contains(c.name), end, title, calls);
         played++;
     }
 
@@ -38,35 +87,26 @@ final class Script {
         System.exit(wrong == 0 ? 0 : 1);
     }
 
-    private static void playOn(String who, Subject subject, String title, String[] lines) {
-        for (String line : lines) {
-            for (String call : line.split(";")) {
-                playCall(who + ", " + title, subject, call.trim());
-            }
+    private static void playWithout(String what, Predicate<Call> isLeftOut, String end, String title, List<Call> calls) {
+        List<Call> others = new ArrayList<>(calls);
+        if (!others.removeIf(isLeftOut)) return;
+        if (!playOn(new Real(), "the class without " + what + ", " + title, others).equals(end)) {
+            wrong++;
+            System.out.println(title + ": ends otherwise without " + what);
         }
     }
 
-    private static void playCall(String where, Subject subject, String call) {
-        String[] words = call.split(" +");
-        int first = words[0].equals("repeat") ? 2 : 0;
-        int times = first == 2 ? number(words[1]) : 1;
-        int end = first + 1;
-        while (end < words.length && !words[end].equals("=") && !words[end].equals("!")) end++;
-        int[] arguments = new int[end - first - 1];
-        for (int i = 0; i < arguments.length; i++) arguments[i] = number(words[first + 1 + i]);
-        for (int i = 0; i < times; i++) {
-            String got = RandomRunsTest.answerOf(subject, words[first], arguments);
-            if (end < words.length && !got.equals(due(words[end], words[end + 1]))) {
-                wrong++;
-                System.out.println(where + ": '" + call + "' answered " + got);
+    private static String playOn(Subject subject, String where, List<Call> calls) {
+        for (Call call : calls) {
+            for (int i = 0; i < call.times; i++) {
+                String got = Probe.answerOf(subject, call.name, call.arguments);
+                if (call.due != null && !call.due.equals(got)) {
+                    wrong++;
+                    System.out.println(where + ": '" + call.text + "' answered " + got);
+                }
             }
         }
-    }
-
-    private static String due(String sign, String word) {
-        if (sign.equals("=")) return Integer.toString(number(word));
-        if (!EXCEPTIONS.containsKey(word)) throw new AssertionError("no exception " + word);
-        return EXCEPTIONS.get(word);
+        return Probe.endOf(subject);
     }
 
     private static int number(String word) {
