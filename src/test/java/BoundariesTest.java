@@ -342,6 +342,9 @@ public final class BoundariesTest {
             "pass 16 = 16; feed 0 = 32; feed 1 = 37; feed 2 = 62; feed 3 = 63; feed 4 = NONE");
         Script.play("the feed: a stamp less by 1 goes ahead of any key",
             "begin 0 0 = 0; begin 0 0 = 1; told 1 2 = 2; put 1 0 7 = DONE; commit 1 plain = DONE; put 0 31 7 = DONE; commit 0 plain = DONE; pass 16 = 16; feed 0 = 63; feed 1 = 64; feed 2 = NONE");
+        Script.play("the feed: a change ahead of others, each with its own value yet",
+            "begin 0 0 = 0; begin 0 0 = 1; begin 0 0 = 2; put 2 5 72 = DONE; commit 2 plain = DONE; put 1 4 71 = DONE; commit 1 plain = DONE; put 0 6 70 = DONE; commit 0 plain = DONE; pass 16 = 16",
+            "feed 0 = 38; feed 1 = 68; feed 2 = 101; asOf 6 1 = 70; asOf 4 2 = 71; asOf 5 3 = 72; asOf 5 2 = GONE; asOf 4 1 = GONE");
         Script.play("the feed: each version of a key, also that it is gone", "begin 0 0 = 0; put 0 5 7 = DONE; commit 0 plain = DONE; begin 0 0 = 1; put 1 5 GONE = DONE; commit 1 plain = DONE; pass 16 = 16; feed 0 = 37; feed 1 = 101; feed 2 = NONE; key 5 0 = 2");
     }
 

@@ -115,6 +115,7 @@ public final class TermsTest {
 
     private static void alive() {
         Script.play("alive 20 ticks behind its beginning, that included", "begin 0 0 = 0; pass 20 = 20; told 0 6 = 0");
+        Script.play("alive 20 ticks behind its beginning, not behind the beginning of time", "pass 50 = 50; begin 0 0 = 0; pass 20 = 70; told 0 6 = 0; pass 1 = 71; told 0 6 = 1");
         Script.play("not alive 21 ticks behind its beginning", "begin 0 0 = 0; pass 21 = 21; told 0 6 = 1");
         Script.play("alive 20 ticks behind its latest beat, that included", "begin 0 0 = 0; pass 20 = 20; beat 0 = DONE; pass 20 = 40; told 0 6 = 0; pass 1 = 41; told 0 6 = 1");
         Script.play("a beat behind that makes it alive", "begin 0 0 = 0; pass 21 = 21; told 0 6 = 1; beat 0 = DONE; told 0 6 = 0; pass 20 = 41; told 0 6 = 0; pass 1 = 42; told 0 6 = 1");
