@@ -133,24 +133,23 @@ public final class Twinphase {
     }
 
     public int merge(int range) throws IndexOutOfBoundsException, IllegalStateException {
-        int last = rangeOf(KEYS - 1);
-        if (range < 0 || range >= last) {
+        int next = range < 0 ? KEYS : firstKeyOf(range + 1);
+        if (next < 1 || next >= KEYS) {
             throw new IndexOutOfBoundsException("no such range, or no next one");
         }
-        int next = firstKeyOf(range + 1);
         if (cells[next].node != cells[next - 1].node) {
             throw new IllegalStateException("the ranges are on different nodes");
         }
         cells[next].beginsRange = false;
-        return last;
+        return rangeOf(KEYS - 1) + 1;
     }
 
     public int move(int range, int node) throws IndexOutOfBoundsException, IllegalStateException {
-        if (range < 0 || range > rangeOf(KEYS - 1)) {
+        int first = firstKeyOf(range);
+        if (first >= KEYS) {
             throw new IndexOutOfBoundsException("no such range");
         }
         needNode(node);
-        int first = firstKeyOf(range);
         int end = firstKeyOf(range + 1);
         int before = cells[first].node;
         needUp(before);
@@ -408,7 +407,7 @@ public final class Twinphase {
         return range;
     }
 
-    /** The first key of a range, or KEYS behind the last range. */
+    /** The first key of a range, or KEYS if there is no such range. */
     private int firstKeyOf(int range) {
         int passed = 0;
         for (int key = 0; key < KEYS; key++) {

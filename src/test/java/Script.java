@@ -81,6 +81,13 @@ final class Script {
         played++;
     }
 
+    /** Counts what is not so as an answer that is not due. */
+    static void due(String what, boolean isSo) {
+        if (isSo) return;
+        wrong++;
+        System.out.println("not so: " + what);
+    }
+
     /** Ends the program, with 1 if an answer was not due. */
     static void end(String name) {
         System.out.println(name + ": " + played + " scripts, " + wrong + " answers not due");
